@@ -13,6 +13,7 @@ public final class ModelTest {
     private final int jobWeight;
     private final int failWeight;
     private final int wallWeight;
+    private final boolean extremes;
 
     private ModelTest(int seed) {
         random = new Random(seed);
@@ -21,9 +22,11 @@ public final class ModelTest {
         model = new PlainModel(asked);
         zones = Math.max(1, Math.min(24, asked));
         hourSpan = random.nextBoolean() ? 4 : 50;
-        jobWeight = 1 + random.nextInt(12);
-        failWeight = 1 + random.nextInt(30);
-        wallWeight = 1 + random.nextInt(12);
+        // Now and then one kind of call prevails, so that its limits are come to.
+        jobWeight = weight(12);
+        failWeight = weight(30);
+        wallWeight = weight(12);
+        extremes = random.nextInt(4) == 0;
     }
 
     public static void main(String[] args) {
@@ -34,6 +37,10 @@ public final class ModelTest {
             }
         }
         Check.end();
+    }
+
+    private int weight(int usual) {
+        return random.nextInt(6) == 0 ? 150 : 1 + random.nextInt(usual);
     }
 
     /** Mostly within the bounds, sometimes at their edges, sometimes outside. */
@@ -92,12 +99,12 @@ public final class ModelTest {
         int hour = random.nextInt(20) == 0 ? number(0, 999) : number(0, hourSpan - 1);
         switch (kind) {
             case 0: {
-                int share = random.nextInt(4) == 0 ? 0 : number(0, 100);
+                int share = extremes ? 100 : random.nextInt(4) == 0 ? 0 : number(0, 100);
                 same(where + "wall(" + a + ", " + b + ", " + share + ")", () -> x.wall(a, b, share), () -> model.wall(a, b, share));
                 break;
             }
             case 1: {
-                int v = number(-1000000, 1000000);
+                int v = extremes ? random.nextBoolean() ? 1000000 : -1000000 : number(-1000000, 1000000);
                 same(where + "value(" + a + ", " + v + ")", () -> x.value(a, v), () -> model.value(a, v));
                 break;
             }
