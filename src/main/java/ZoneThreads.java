@@ -171,9 +171,18 @@ public final class ZoneThreads {
 
     private boolean hourIsDone(int hour) {
         zones.remember();
-        for (int turn = 0; turn < zones.size(); turn++) {
-            if (!zoneIsDone(zones.zoneInTurn(turn), hour)) {
+        for (int colour = 0; colour < zones.colourCount(); colour++) {
+            if (!stageIsDone(colour, hour)) {
                 zones.recall();
+                return false;
+            }
+        }
+        return true;
+    }
+
+    private boolean stageIsDone(int colour, int hour) {
+        for (int zone = 0; zone < zones.size(); zone++) {
+            if (zones.colourOf(zone) == colour && !zoneIsDone(zone, hour)) {
                 return false;
             }
         }
@@ -182,9 +191,11 @@ public final class ZoneThreads {
 
     /** A failed zone stays the least that is not done, so the next worker drawn takes it again. */
     private boolean zoneIsDone(int zone, int hour) {
-        for (int tries = 0; tries < MOST_WORKERS && crew.size() > 0; tries++) {
-            int place = crew.draw();
-            int worker = crew.workerIn(place);
+        for (int tries = 0; tries < MOST_WORKERS; tries++) {
+            int worker = crew.draw();
+            if (worker == NONE) {
+                return false;
+            }
             boolean failed = failures.has(worker, zone, hour);
             lines.add(worker, zone, hour, failed);
             if (!failed) {
@@ -192,7 +203,7 @@ public final class ZoneThreads {
                 crew.credit(worker);
                 return true;
             }
-            crew.lose(place);
+            crew.lose(worker);
         }
         return false;
     }
@@ -205,8 +216,6 @@ public final class ZoneThreads {
         private final int[] trial;
         private final int[] shares;
         private final int[] colourOf;
-        // The zones as an hour comes to them: by colour and, within a colour, by number.
-        private final int[] turns;
         private int colourCount;
 
         Zones(int size) {
@@ -216,10 +225,6 @@ public final class ZoneThreads {
             this.trial = new int[size];
             this.shares = new int[size * size];
             this.colourOf = new int[size];
-            this.turns = new int[size];
-            for (int zone = 0; zone < size; zone++) {
-                this.turns[zone] = zone;
-            }
             this.colourCount = 1;
         }
 
@@ -243,7 +248,6 @@ public final class ZoneThreads {
             shares[zone * size + other] = share;
             shares[other * size + zone] = share;
             paint();
-            orderTurns();
         }
 
         int colourCount() {
@@ -252,10 +256,6 @@ public final class ZoneThreads {
 
         int colourOf(int zone) {
             return colourOf[zone];
-        }
-
-        int zoneInTurn(int turn) {
-            return turns[turn];
         }
 
         void remember() {
@@ -277,11 +277,19 @@ public final class ZoneThreads {
         int valueAfter(int zone, int hours) {
             System.arraycopy(values, 0, trial, 0, size);
             for (int hour = 0; hour < hours; hour++) {
-                for (int turn = 0; turn < size; turn++) {
-                    trial[turns[turn]] = changed(trial, turns[turn]);
+                for (int colour = 0; colour < colourCount; colour++) {
+                    tryStage(colour);
                 }
             }
             return trial[zone];
+        }
+
+        private void tryStage(int colour) {
+            for (int zone = 0; zone < size; zone++) {
+                if (colourOf[zone] == colour) {
+                    trial[zone] = changed(trial, zone);
+                }
+            }
         }
 
         private void paint() {
@@ -306,18 +314,6 @@ public final class ZoneThreads {
                 }
             }
             return zone;
-        }
-
-        private void orderTurns() {
-            int turn = 0;
-            for (int colour = 0; colour < colourCount; colour++) {
-                for (int zone = 0; zone < size; zone++) {
-                    if (colourOf[zone] == colour && turn < size) {
-                        turns[turn] = zone;
-                        turn++;
-                    }
-                }
-            }
         }
 
         private int changed(int[] row, int zone) {
@@ -404,56 +400,54 @@ public final class ZoneThreads {
         }
     }
 
-    /** The workers of the latest run: who is not gone, and what each did. */
+    /** The workers of the latest run: what each did, which is NONE of those that are gone or were none of it. */
     private static final class Crew {
-        private final int[] present;
         private final int[] done;
-        private int size;
+        private int left;
         private int chance;
 
         Crew() {
-            this.present = new int[MOST_WORKERS];
             this.done = new int[MOST_WORKERS];
             for (int worker = 0; worker < MOST_WORKERS; worker++) {
                 this.done[worker] = NONE;
             }
-            this.size = 0;
+            this.left = 0;
             this.chance = 0;
         }
 
         void gather(int workers, int seed) {
             for (int worker = 0; worker < MOST_WORKERS; worker++) {
-                present[worker] = worker;
                 done[worker] = worker < workers ? 0 : NONE;
             }
-            size = workers;
+            left = workers;
             chance = seed;
         }
 
-        int size() {
-            return size;
-        }
-
-        /** The place of the next taker among those present, who stand in the order of their numbers. */
+        /** The next taker; NONE if all are gone. */
         int draw() {
+            if (left <= 0) {
+                return NONE;
+            }
             chance = chance * 1103515245 + 12345;
-            return size > 0 ? (chance >>> 16) % size : 0;
-        }
-
-        int workerIn(int place) {
-            return present[place];
+            int before = (chance >>> 16) % left;
+            for (int worker = 0; worker < MOST_WORKERS; worker++) {
+                if (done[worker] != NONE) {
+                    if (before == 0) {
+                        return worker;
+                    }
+                    before--;
+                }
+            }
+            return NONE;
         }
 
         void credit(int worker) {
             done[worker]++;
         }
 
-        void lose(int place) {
-            if (place < size) {
-                done[present[place]] = NONE;
-                System.arraycopy(present, place + 1, present, place, size - place - 1);
-                size--;
-            }
+        void lose(int worker) {
+            done[worker] = NONE;
+            left--;
         }
 
         int doneBy(int worker) {
