@@ -400,7 +400,7 @@ public final class ZoneThreads {
         }
     }
 
-    /** The workers of the latest run: what each did, which is NONE of those that are gone or were none of it. */
+    /** What each worker did in the latest run; NONE marks those that are gone or were not in it. */
     private static final class Crew {
         private final int[] done;
         private int left;
